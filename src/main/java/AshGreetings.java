@@ -64,15 +64,12 @@ public final class AshGreetings {
         if (!isRow(r)) {
             return BAD;
         }
-        Strip row = rows[r];
-        if (!row.isThere()) {
-            return foundOut(NOTHING);
+        int refused = refusalOfPlace(rows[r], i);
+        if (refused != 0) {
+            return refused;
         }
-        if (!row.has(i)) {
-            return foundOut(BEYOND);
-        }
-        told = row.places[i];
-        row.places[i] = v;
+        told = rows[r].places[i];
+        rows[r].places[i] = v;
         return 1;
     }
 
@@ -80,14 +77,11 @@ public final class AshGreetings {
         if (!isRow(r)) {
             return BAD;
         }
-        Strip row = rows[r];
-        if (!row.isThere()) {
-            return foundOut(NOTHING);
+        int refused = refusalOfPlace(rows[r], i);
+        if (refused != 0) {
+            return refused;
         }
-        if (!row.has(i)) {
-            return foundOut(BEYOND);
-        }
-        told = row.places[i];
+        told = rows[r].places[i];
         return 1;
     }
 
@@ -149,15 +143,12 @@ public final class AshGreetings {
         if (!isText(t)) {
             return BAD;
         }
-        Strip text = texts[t];
-        if (!text.isThere()) {
-            return foundOut(NOTHING);
+        int refused = refusalOfPlace(texts[t], i);
+        if (refused != 0) {
+            return refused;
         }
-        if (!text.has(i)) {
-            return foundOut(BEYOND);
-        }
-        int was = text.places[i];
-        text.places[i] = (byte) v;
+        int was = texts[t].places[i];
+        texts[t].places[i] = (byte) v;
         return was + BYTE_SHIFT;
     }
 
@@ -427,7 +418,7 @@ public final class AshGreetings {
             return STATE;
         }
         outlook.lookAt(town);
-        return outlook.outcome(0, n);
+        return outlook.totalByTurns(n);
     }
 
     // ---- 7 chances, lots
@@ -608,6 +599,14 @@ public final class AshGreetings {
             timesFound[which]++;
         }
         return FINDING;
+    }
+
+    /** 0 if the ROW or TEXT has such a place. */
+    private int refusalOfPlace(Strip strip, int i) {
+        if (!strip.isThere()) {
+            return foundOut(NOTHING);
+        }
+        return strip.has(i) ? 0 : foundOut(BEYOND);
     }
 
     /** 0 if kinds(), highs(), test() may go on with this one and this ROW. */
@@ -861,7 +860,7 @@ public final class AshGreetings {
     static final class ShortOne extends Neighbour {
         @Override
         int seenAs(int high) {
-            return Math.max(0, high - 2);
+            return high > 2 ? high - 2 : 0;
         }
     }
 
@@ -1026,22 +1025,20 @@ public final class AshGreetings {
             return sortOf(i).seenAs(highs[i]) <= deeps[streets[i]];
         }
 
+        /**
+         * Two of one STREET meet, if nobody stands between them, or if they are its first and its
+         * last one, which is to say that nobody stands but between them.
+         */
         boolean meetsFoe(int i) {
             int foe = foes[i];
-            return foe != NOBODY && streets[foe] == streets[i]
-                && standSideBySide(Math.min(i, foe), Math.max(i, foe));
-        }
-
-        /**
-         * Two of one STREET: nobody stands between them, or they are its first and its last one,
-         * which is to say that nobody stands but between them.
-         */
-        private boolean standSideBySide(int low, int high) {
+            if (foe == NOBODY || streets[foe] != streets[i]) {
+                return false;
+            }
             boolean hasBetween = false;
             boolean hasOutside = false;
             for (int k = 0; k < people; k++) {
-                if (streets[k] == streets[low] && k != low && k != high) {
-                    if (k > low && k < high) {
+                if (streets[k] == streets[i] && k != i && k != foe) {
+                    if (k > Math.min(i, foe) && k < Math.max(i, foe)) {
                         hasBetween = true;
                     } else {
                         hasOutside = true;
@@ -1306,8 +1303,12 @@ public final class AshGreetings {
             return greatest;
         }
 
+        int totalByTurns(int turns) {
+            return outcome(0, turns);
+        }
+
         /** Turns of an even number are the ash's; as there are few, each is tried out. */
-        int outcome(int turn, int turns) {
+        private int outcome(int turn, int turns) {
             if (turn >= turns || turn >= TURNS) {
                 return totalBehind(DUEL_DAYS);
             }

@@ -7,6 +7,7 @@ public final class ChancesTest {
         refusals(check);
         lotsAreDrawn(check);
         lotsOfNothing(check);
+        lotsOfWindAndAsh(check);
         check.end();
     }
 
@@ -30,6 +31,9 @@ public final class ChancesTest {
         fractionIs(check, x, "odds(6, 2, 12)", x.odds(6, 2, 12), 0, 1);
         fractionIs(check, x, "odds(5, 0, 7)", x.odds(5, 0, 7), 1, 1);
         fractionIs(check, x, "odds(0, 5, 1)", x.odds(0, 5, 1), 11, 12);
+        // Cleared is 0 deep, where even one as high as 1 is seen.
+        x = Check.townOf("90000 n1150 n1000");
+        fractionIs(check, x, "odds(5, 1, 4)", x.odds(5, 1, 4), 2, 3);
         // Two streets with a pair each, by themselves.
         x = Check.townOf("99000 n5110 n5000 n5111 n5001");
         fractionIs(check, x, "odds(0, 1, 5)", x.odds(0, 1, 5), 49, 144);
@@ -115,6 +119,17 @@ public final class ChancesTest {
             return y.go((int) (lot / 64 % y.count(0)), street) >= 0;
         }
         return y.day() >= 0;
+    }
+
+    private static void lotsOfWindAndAsh(Check check) {
+        for (int seed = 1; seed < 100; seed++) {
+            int what = (int) (seed * 48271L % 2147483647L % 8);
+            AshGreetings x = Check.townOf("11111 n5150 n5151");
+            x.lots(1, seed);
+            int ash = what == 0 ? 4 : what <= 2 ? 6 : 5;
+            check.due("ash behind lots(1, " + seed + ")", x.count(6), ash);
+            check.due("day behind lots(1, " + seed + ")", x.count(1), what > 3 ? 1 : 0);
+        }
     }
 
     /** Towns in which what the first lot of a seed says can not be. */

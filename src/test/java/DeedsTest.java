@@ -179,7 +179,15 @@ public final class DeedsTest {
         check.due("keep(0) over it", x.keep(0), 2);
         check.due("count(9)", x.count(9), 2);
         x.undo(0);
+        x.go(0, 3);
+        x.wind(0);
+        x.go(1, 2);
         check.due("on(0)", x.on(0), 2);
         check.due("ash", x.count(6), 5);
+        check.due("undo(1): not what was done meanwhile", x.undo(1), 1);
+        check.due("ash", x.count(6), 0);
+        check.due("grudges", x.count(3), 6);
+        x.deep(0);
+        check.due("who is there", x.asked(), 2);
     }
 }

@@ -39,6 +39,10 @@ public final class PlansTest {
         x = Check.townOf("90000 n5120 n5120");
         x.deep(0);
         check.told(x, "best(2) of the best", x.best(2), AshGreetings.NONE, 2);
+        check.due("best(40)", x.best(40), AshGreetings.NONE);
+        // Street 0 is the only one with ash: 0 goes there, where 1 is.
+        x = Check.townOf("90000 n5131 n5130");
+        check.told(x, "best(40) to street 0", x.best(40), 0, 0);
         check.due("best(0)", x.best(0), AshGreetings.BAD);
         check.due("best(41)", x.best(41), AshGreetings.BAD);
         check.due("best(1) without people", new AshGreetings().best(1), AshGreetings.STATE);
@@ -61,6 +65,18 @@ public final class PlansTest {
         // Nothing done is the best for the wind where the ash has left nothing to clear.
         x = Check.townOf("99999 p5130 n5030");
         check.due("duel(3) of a priest", x.duel(3), 0 + 3);
+        // Angered once a day, for six days.
+        x = Check.townOf("00000 n5100 n5000");
+        check.due("duel(0) from 0", x.duel(0), 6);
+        // Two are missing, and the wind comes in between.
+        x = Check.townOf("30000 n5130 n5030");
+        check.due("duel(1), two missing", x.duel(1), 12);
+        check.due("duel(3), two missing", x.duel(3), 12);
+        // One is missing in each of two streets, and only one of them can have it.
+        x = Check.townOf("44000 n5130 n5000 n5131 n5001");
+        check.due("duel(1) of two pairs", x.duel(1), 0 + 9);
+        check.due("duel(2) of two pairs", x.duel(2), 9 + 9);
+        check.due("duel(3) of two pairs", x.duel(3), 0 + 9);
         check.due("duel(4)", x.duel(4), AshGreetings.BAD);
         check.due("duel(-1)", x.duel(-1), AshGreetings.BAD);
         check.due("duel(0) without people", new AshGreetings().duel(0), AshGreetings.STATE);

@@ -106,6 +106,10 @@ public final class ToldTest {
         }
         x.undo(1);
         check.due("who is hid", x.count(4), 1 | 4 | 8 | 64);
+        x = Check.townOf("00000 p4100 b6102");
+        check.due("the first one is devout", x.count(10), 1);
+        check.due("the last one is stubborn", x.count(11), 1);
+        check.due("both are without grudge", x.count(5), 3);
         check.due("count(12)", x.count(12), AshGreetings.BAD);
         check.due("count(-1)", x.count(-1), AshGreetings.BAD);
     }

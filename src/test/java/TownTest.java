@@ -24,11 +24,12 @@ public final class TownTest {
         check.due("town(1)", x.town(1), 2);
         x.fall(0, 2);
         x.day();
+        x.keep(0);
         x.keep(2);
         Check.write(x, 2, "10000 n5110");
         check.due("town of a fault", x.town(2), AshGreetings.STATE);
         check.due("deeds stay", x.count(2), 2);
-        check.due("kept ones stay", x.count(9), 1);
+        check.due("kept ones stay", x.count(9), 2);
         check.due("town anew", x.town(1), 2);
         check.due("no deeds", x.count(2), 0);
         check.due("day 0", x.count(1), 0);

@@ -113,6 +113,10 @@ public final class WhoTest {
         check.finds(x, name + "64", 0, call(x, which, 0, 0), UNLIKE);
         x.lay(0, 19, -1);
         check.finds(x, name + "-1", 1, call(x, which, 0, 0), UNLIKE);
+        x.lay(0, 19, 0);
+        x.lay(0, 0, 64);
+        check.finds(x, name + "64 first", 2, call(x, which, 0, 0), UNLIKE);
+        x.lay(0, 0, 0);
         x.lay(0, 19, 63);
         int want = which == 2 ? AshGreetings.NONE : 0;
         check.due(name + "63", call(x, which, 0, 0), want);
