@@ -2,7 +2,7 @@ import java.util.Arrays;
 
 /**
  * A town under a fall of ash: who is hid in it, who forgives whom, and what the grudges come to.
- * The document's promises are numbered; a comment names one only where its words decide the code.
+ * Words in capitals are the document's terms.
  */
 public final class AshGreetings {
     public static final int BAD = -1, FULL = -2, FINDING = -3, STATE = -4, SPENT = -6, NONE = -9;

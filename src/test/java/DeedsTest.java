@@ -13,6 +13,7 @@ public final class DeedsTest {
         peopleGo(check);
         deedsAreUndone(check);
         townsAreKept(check);
+        deedsAreKept(check);
         check.end();
     }
 
@@ -151,6 +152,28 @@ public final class DeedsTest {
         check.due("digest", x.digest(), digests[0]);
         check.due("undo(1) then", x.undo(1), AshGreetings.BAD);
         check.due("day() goes on", x.day(), 8 + 1 + 8);
+    }
+
+    /** Other deeds, done while a town is kept, must not be taken for its own. */
+    private static void deedsAreKept(Check check) {
+        for (int n = 0; n <= 3; n++) {
+            AshGreetings x = Check.townOf("00000 n5110 n5130");
+            x.fall(1, 3);
+            x.go(0, 3);
+            x.day();
+            x.keep(1);
+            x.undo(0);
+            x.go(1, 4);
+            x.fall(2, 5);
+            x.wind(2);
+            check.due("on(1)", x.on(1), 3);
+            check.due("undo(" + n + ")", x.undo(n), 3 - n);
+            check.due("the ash that fell", x.deep(1), n >= 1 ? 3 : 0);
+            check.told(x, "the one who went", x.person(0, STREET), 1, n >= 2 ? 3 : 0);
+            check.told(x, "the one who stayed", x.person(1, STREET), 1, 0);
+            check.due("the day", x.count(1), n >= 3 ? 1 : 0);
+            check.due("the ash in all", x.count(6), n >= 1 ? 3 : 0);
+        }
     }
 
     private static void townsAreKept(Check check) {

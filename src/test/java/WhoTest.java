@@ -73,6 +73,10 @@ public final class WhoTest {
         // All alike on day 1; N, H, D, S 9, P 0, B 8 later.
         x = Check.townOf("00000 n5180 n5000");
         lookIs(check, x, 1, 4, 9, 9);
+        // The foe's own foe: a short one would be hid, so it is a neighbour and nobody else.
+        x = Check.townOf("40000 n5150 n4150");
+        kindsAre(check, x, 0, N, 10, 10);
+        lookIs(check, x, 1, 1, 10, 10);
     }
 
     private static void lookIs(Check check, AshGreetings x, int want, int part, int... row) {
