@@ -418,7 +418,7 @@ public final class AshGreetings {
             return STATE;
         }
         outlook.lookAt(town);
-        return outlook.totalByTurns(n);
+        return outlook.leastByAsh(n);
     }
 
     // ---- 7 chances, lots
@@ -1303,29 +1303,38 @@ public final class AshGreetings {
             return greatest;
         }
 
-        int totalByTurns(int turns) {
-            return outcome(0, turns);
-        }
-
-        /** Turns of an even number are the ash's; as there are few, each is tried out. */
-        private int outcome(int turn, int turns) {
-            if (turn >= turns || turn >= TURNS) {
+        /** The ash's turn, of so many that are left; as there are few, each way is tried out. */
+        int leastByAsh(int turns) {
+            if (turns < 1 || turns > TURNS) {
                 return totalBehind(DUEL_DAYS);
             }
-            boolean isAsh = turn % 2 == 0;
-            int best = outcome(turn + 1, turns);
+            int least = mostByWind(turns - 1);
             for (int c = 0; c < STREETS; c++) {
                 int lay = aside.deeps[c];
-                int lies = isAsh ? Math.min(MOST_DEEP, lay + 1) : 0;
-                // What changes nothing has been looked at: it is as good as doing nothing.
-                if (lies != lay) {
-                    aside.deeps[c] = lies;
-                    int total = outcome(turn + 1, turns);
+                // Where it is 9 deep no more falls: that is to do nothing, which has been tried.
+                if (lay < MOST_DEEP) {
+                    aside.deeps[c] = lay + 1;
+                    least = Math.min(least, mostByWind(turns - 1));
                     aside.deeps[c] = lay;
-                    best = isAsh ? Math.min(best, total) : Math.max(best, total);
                 }
             }
-            return best;
+            return least;
+        }
+
+        private int mostByWind(int turns) {
+            if (turns < 1 || turns > TURNS) {
+                return totalBehind(DUEL_DAYS);
+            }
+            int most = leastByAsh(turns - 1);
+            for (int c = 0; c < STREETS; c++) {
+                int lay = aside.deeps[c];
+                if (lay > 0) {
+                    aside.deeps[c] = 0;
+                    most = Math.max(most, leastByAsh(turns - 1));
+                    aside.deeps[c] = lay;
+                }
+            }
+            return most;
         }
 
         /** All sets of cleared STREETS, each by its weight out of PARTS to the power STREETS. */

@@ -140,6 +140,8 @@ public final class AheadEdgeTest {
         Edge.town(check, "00009 n5130 n5134").tells(4, 4, "best", 1);
         Edge.town(check, "90000 n5131 n5130").tells(0, 4, "best", 1);
         Edge.town(check, "00009 n5004 n5004 n5004 n5004 n5004 n5004 n5690").tells(64, 8, "best", 1);
+        // There are five STREETS: wherever 0 went, one would be ANGERED by it; so 1 goes, to any.
+        Edge.town(check, "00000 n9100 n9000 n9401 n9302 n9203 n9104").tells(11, 0, "best", 1);
         // By going away from a STREET one can bring two others together.
         Edge.town(check, "90000 n5230 n5000 n5000 n5000").tells(11, 2, "best", 1);
     }

@@ -39,6 +39,11 @@ public final class ChancesEdgeTest {
         three.chances(343, 1728, "odds", 12, 1, 5).chances(343, 1728, "odds", 13, 1, 5);
         three.chances(539, 864, "odds", 14, 1, 5).chances(1603, 1728, "odds", 16, 1, 5);
         three.chances(1, 1, "odds", 18, 1, 5).chances(0, 1, "odds", 11, 1, 5);
+        // Cleared it is 0 deep: one who is 1 high is SEEN, one who is 0 high is HID yet.
+        Edge.town(check, "90000 n5150 n1000").chances(2, 3, "odds", 5, 1, 4);
+        Edge.town(check, "90000 n5150 n0000").chances(1, 1, "odds", 4, 1, 12);
+        // One behind another, each for itself.
+        two.then("odds", 63, 20, 7).chances(2, 3, "odds", 4, 1, 4).then("mid", 5, 7).chances(25, 6, "mid", 1, 1);
         // A STREET that is clear is no less so.
         Edge.town(check, "00000 n5150 n5000").chances(1, 1, "odds", 6, 1, 7).chances(0, 1, "odds", 5, 1, 7);
     }
@@ -163,10 +168,12 @@ public final class ChancesEdgeTest {
             int street = (int) (first(seed) / 8 % 5);
             int who = (int) (first(seed) / 64 % 3);
             int other = (street + 1) % 5;
-            Edge one = Edge.town(check, "55555 n525" + other + "n515" + other + "n505" + other);
-            Edge behind = one.then("lots", 1, seed).answers(1, "count", 2);
+            // The least that wind clears, the most on which ash falls.
+            int lay = what == 0 ? 1 : 8;
+            String said = ("" + lay).repeat(5) + "n525" + other + "n515" + other + "n505" + other;
+            Edge behind = Edge.town(check, said).then("lots", 1, seed).answers(1, "count", 2);
             behind.answers(what > 3 ? 1 : 0, "count", 1);
-            int deep = what == 0 ? 0 : what == 1 || what == 2 ? 6 : 5;
+            int deep = what == 0 ? 0 : what == 1 || what == 2 ? 9 : 8;
             behind.tells(deep, what == 3 ? 1 : 0, "deep", street);
             for (int i = 0; i < 3; i++) {
                 behind.tells(1, what == 3 && i == who ? street : other, "person", i, 4);

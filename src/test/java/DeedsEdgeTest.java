@@ -175,6 +175,12 @@ public final class DeedsEdgeTest {
         // Full when it was kept: full again.
         Edge full = two.times(40, "day").then("keep", 0).then("undo", 0);
         full.then("on", 0).leaves(FULL, "day").answers(40, "count", 1).answers(40, "undo", 0);
+        // Its DEEDS are its own, whatever was done in their places meanwhile.
+        Edge meanwhile = two.then("fall", 0, 3).then("go", 0, 3).then("wind", 1).then("keep", 1).then("undo", 0);
+        Edge own = meanwhile.then("go", 1, 4).then("wind", 2).then("fall", 4, 5).then("on", 1);
+        own.answers(3, "count", 2).then("undo", 2).answers(8, "deep", 1).tells(1, 3, "person", 0, 4);
+        own.then("undo", 1).answers(3, "deep", 0).answers(9, "deep", 2).tells(1, 0, "person", 0, 4);
+        own.then("undo", 1).answers(0, "deep", 4).tells(1, 1, "person", 1, 4).then("undo", 0).answers(0, "deep", 0);
         // A TOWN that is told anew lets kept ones go; one that is refused does not.
         Edge kept = two.then("keep", 0).then("keep", 1).then("keep", 2);
         kept.then("town", 0).finds(NOTHING, "on", 0).finds(NOTHING, "on", 1).finds(NOTHING, "on", 2);

@@ -10,8 +10,9 @@ import java.util.Random;
 
 /** Many runs of calls by a fixed seed, each answered by AshGreetings and by Model alike. */
 public final class ModelTest {
-    private static final int RUNS = 400;
-    private static final int CALLS = 160;
+    private static final int RUNS = 1000;
+    /** What later calls answer is free; the longest step (a town written) takes some seventy. */
+    private static final int CALLS = 512, LONGEST_STEP = 80;
 
     /** For each call, the least and the most of its arguments that are drawn mostly. */
     private static final Map<String, int[]> RANGES = new HashMap<>();
@@ -57,6 +58,7 @@ public final class ModelTest {
     private final Model model = new Model();
     private final List<Method> face;
     private final String run;
+    private int calls = 0;
 
     private ModelTest(int run, Check check, List<Method> face) {
         this.random = new Random(run);
@@ -83,9 +85,9 @@ public final class ModelTest {
     }
 
     private void go() throws ReflectiveOperationException {
-        for (int c = 0; c < CALLS; c++) {
+        for (int step = 0; calls < CALLS - LONGEST_STEP; step++) {
             int chance = random.nextInt(100);
-            if (c == 3 || chance < 2) {
+            if (step == 3 || chance < 2) {
                 writeTown();
             } else if (chance < 8) {
                 recordTotals();
@@ -94,6 +96,7 @@ public final class ModelTest {
             }
         }
         same("digest()", x.digest(), model.digest());
+        check.due(run + "calls of an object", calls <= CALLS ? 1 : 0, 1);
     }
 
     private void callBoth(Method method) throws ReflectiveOperationException {
@@ -193,7 +196,9 @@ public final class ModelTest {
         same("asked", x.asked(), model.asked());
     }
 
+    /** Each call of the class is compared, so that what is compared is what was called. */
     private void same(String call, long got, long want) {
+        calls++;
         check.due(run + call, got, want);
     }
 }

@@ -43,33 +43,34 @@ public final class TextsTest {
         check.finds(x, "fault of none", 0, x.fault(0), NOTHING);
         check.due("fault(4)", x.fault(4), AshGreetings.BAD);
         check.due("fault(-1)", x.fault(-1), AshGreetings.BAD);
-        faultIs(check, x, "00000n0000n0000", AshGreetings.NONE);
-        faultIs(check, x, "  00000  n0000   n0000   ", AshGreetings.NONE);
-        faultIs(check, x, "99999n9994d9994s9994h9994p9994b9994n9994", AshGreetings.NONE);
-        faultIs(check, x, "", 0);
-        faultIs(check, x, "    ", 4);
-        faultIs(check, x, "0000", 4);
-        faultIs(check, x, "0000 0n0000n0000", 4);
-        faultIs(check, x, "0000an0000n0000", 4);
-        faultIs(check, x, "00000", 5);
-        faultIs(check, x, "000000", 5);
-        faultIs(check, x, "00000 x0000 n0000", 6);
-        faultIs(check, x, "00000 N0000 n0000", 6);
-        faultIs(check, x, "00000 n 000 n0000", 7);
-        faultIs(check, x, "00000 n0:00 n0000", 8);
-        faultIs(check, x, "00000 n00/0 n0000", 9);
-        faultIs(check, x, "00000 n0005 n0000", 10);
-        faultIs(check, x, "00000 n0000", 11);
-        faultIs(check, x, "00000 n0000   ", 14);
-        faultIs(check, x, "00000 n0000 n000", 16);
-        faultIs(check, x, "00000 n0000 n000 ", 16);
-        faultIs(check, x, "00000 n0000 n0000 \t", 18);
-        faultIs(check, x, "00000n0000n0000n0000n0000n0000n0000n0000  n0000", 42);
-        faultIs(check, x, "00000n0000n0000n0000n0000n0000n0000n0000?", 40);
-        faultIs(check, x, "00000" + (char) 238 + "0000n0000", 5);
+        faultIs(check, "00000n0000n0000", AshGreetings.NONE);
+        faultIs(check, "  00000  n0000   n0000   ", AshGreetings.NONE);
+        faultIs(check, "99999n9994d9994s9994h9994p9994b9994n9994", AshGreetings.NONE);
+        faultIs(check, "", 0);
+        faultIs(check, "    ", 4);
+        faultIs(check, "0000", 4);
+        faultIs(check, "0000 0n0000n0000", 4);
+        faultIs(check, "0000an0000n0000", 4);
+        faultIs(check, "00000", 5);
+        faultIs(check, "000000", 5);
+        faultIs(check, "00000 x0000 n0000", 6);
+        faultIs(check, "00000 N0000 n0000", 6);
+        faultIs(check, "00000 n 000 n0000", 7);
+        faultIs(check, "00000 n0:00 n0000", 8);
+        faultIs(check, "00000 n00/0 n0000", 9);
+        faultIs(check, "00000 n0005 n0000", 10);
+        faultIs(check, "00000 n0000", 11);
+        faultIs(check, "00000 n0000   ", 14);
+        faultIs(check, "00000 n0000 n000", 16);
+        faultIs(check, "00000 n0000 n000 ", 16);
+        faultIs(check, "00000 n0000 n0000 \t", 18);
+        faultIs(check, "00000n0000n0000n0000n0000n0000n0000n0000  n0000", 42);
+        faultIs(check, "00000n0000n0000n0000n0000n0000n0000n0000?", 40);
+        faultIs(check, "00000" + (char) 238 + "0000n0000", 5);
     }
 
-    private static void faultIs(Check check, AshGreetings x, String said, int want) {
+    private static void faultIs(Check check, String said, int want) {
+        AshGreetings x = new AshGreetings();
         Check.write(x, 0, said);
         check.due("fault of '" + said + "'", x.fault(0), want);
     }

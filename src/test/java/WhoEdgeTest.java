@@ -115,6 +115,8 @@ public final class WhoEdgeTest {
         two.row(0, 4).tells(2, 2, "test", 0, 0).row(0, 4, 3).tells(1, 2, "test", 0, 0);
         // One KIND is a part of one.
         Edge.town(check, "00000 n5150 n5000").row(0, 3).tells(1, 1, "test", 0, 0);
+        Edge.town(check, "40000 n5150 n4150").row(0, 10, 10).leaves(1, "kinds", 0, 0).tells(1, 1, "test", 0, 0);
+        Edge.town(check, "00000 n5150 n5000").row(0, 5).leaves(32, "kinds", 0, 0).tells(1, 1, "test", 0, 0);
         // All are alike on each DAY: one who meets nobody.
         Edge.town(check, "00000 n5050 n5000").row(0, 5).tells(1, 6, "test", 0, 0);
         // Two KINDS that come apart late: as 9 fits all that are ANGERED, the BROTHER's 9 too, never.
@@ -147,6 +149,8 @@ public final class WhoEdgeTest {
         // A last turn of the wind; of the ash.
         Edge.town(check, "90000 n5130 n5030").leaves(3, "duel", 1).leaves(12, "duel", 2).leaves(12, "duel", 3);
         Edge.town(check, "00000 n1130 n1030").leaves(3, "duel", 1).leaves(12, "duel", 2).leaves(3, "duel", 3);
+        // 1 FALLS, not more: two are missing.
+        Edge.town(check, "30000 n5130 n5030").leaves(12, "duel", 1).leaves(12, "duel", 3);
         // 9 at most: no ash falls where it is 9 deep, and none is seen higher.
         Edge.town(check, "99999 n9130 n9030").leaves(3, "duel", 0).leaves(3, "duel", 1).leaves(12, "duel", 2);
         Edge.town(check, "89999 n9130 n9030").leaves(12, "duel", 0).leaves(3, "duel", 1).leaves(12, "duel", 3);
