@@ -1304,7 +1304,7 @@ public final class AshGreetings {
         }
 
         /** The ash's turn, of so many that are left; as there are few, each way is tried out. */
-        int leastByAsh(int turns) {
+        private int leastByAsh(int turns) {
             if (turns < 1 || turns > TURNS) {
                 return totalBehind(DUEL_DAYS);
             }

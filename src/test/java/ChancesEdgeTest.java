@@ -168,12 +168,12 @@ public final class ChancesEdgeTest {
             int street = (int) (first(seed) / 8 % 5);
             int who = (int) (first(seed) / 64 % 3);
             int other = (street + 1) % 5;
-            // The least that wind clears, the most on which ash falls.
-            int lay = what == 0 ? 1 : 8;
+            // The least that wind clears, the least and the most on which ash falls.
+            int lay = what == 0 ? 1 : what == 1 ? 0 : 8;
             String said = ("" + lay).repeat(5) + "n525" + other + "n515" + other + "n505" + other;
             Edge behind = Edge.town(check, said).then("lots", 1, seed).answers(1, "count", 2);
             behind.answers(what > 3 ? 1 : 0, "count", 1);
-            int deep = what == 0 ? 0 : what == 1 || what == 2 ? 9 : 8;
+            int deep = what == 0 ? 0 : what == 1 || what == 2 ? lay + 1 : lay;
             behind.tells(deep, what == 3 ? 1 : 0, "deep", street);
             for (int i = 0; i < 3; i++) {
                 behind.tells(1, what == 3 && i == who ? street : other, "person", i, 4);

@@ -159,6 +159,11 @@ public final class WhoEdgeTest {
         apart.leaves(6, "duel", 0).leaves(6, "duel", 1).leaves(6, "duel", 2).leaves(6, "duel", 3);
         // The wind does best to do nothing where clearing changes nothing.
         Edge.town(check, "55555 p5130 n5030").leaves(3, "duel", 2);
+        // Cleared is 0 deep: one who is 0 high is HID yet.
+        Edge.town(check, "10000 n5130 n0030").leaves(3, "duel", 2);
+        // The ash begins what it ends in its last turn, as the wind can't clear both that and STREET 1.
+        Edge begun = Edge.town(check, "04000 n4131 n4001 n2132 n2532 s1193 n1003");
+        begun.leaves(27, "duel", 0).leaves(24, "duel", 1).leaves(33, "duel", 2).leaves(24, "duel", 3);
         // Two ash turns of three count together where the wind must choose between two STREETS.
         Edge.town(check, "44000 n5130 n5000 n5131 n5001").leaves(18, "duel", 0).leaves(9, "duel", 1)
             .leaves(18, "duel", 2).leaves(9, "duel", 3);
