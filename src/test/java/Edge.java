@@ -150,7 +150,7 @@ final class Edge {
     /** Looks behind what digest() tells, too: each DEED by undoing it, each kept TOWN by going on. */
     private static List<Long> everythingIn(AshGreetings x) {
         List<Long> all = new ArrayList<>(List.of((long) x.asked(), x.upper(), x.lower(), x.digest()));
-        for (int n = x.count(2); n >= 0; n -= 3) {
+        for (int n = x.count(2); n >= 0; n--) {
             all.add((long) x.undo(n));
             all.add(x.digest());
         }
