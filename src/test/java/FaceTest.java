@@ -1,20 +1,13 @@
-import java.io.IOException;
 import java.lang.reflect.Field;
 import java.lang.reflect.Member;
 import java.lang.reflect.Method;
 import java.lang.reflect.Modifier;
-import java.nio.file.Files;
-import java.nio.file.Path;
-import java.util.Arrays;
 import java.util.List;
 import java.util.Set;
 import java.util.TreeSet;
-import java.util.regex.Matcher;
-import java.util.regex.Pattern;
 
-/** The face, the constants, and the rules of LANGUAGE.md that can be seen from outside. */
-public final class LanguageTest {
-    private static final Path SOURCE = Path.of("src/main/java/AshGreetings.java");
+/** The face and the constants, as rule 1 of LANGUAGE.md wants them. */
+public final class FaceTest {
     private static final List<String> FACE = List.of(
         "row 2", "lay 3", "at 2", "tear 1", "copy 5", "mean 1", "text 2", "put 3", "fault 1", "town 1",
         "person 2", "deep 1", "mark 2", "day 0", "fall 2", "wind 1", "go 2", "undo 1", "keep 1", "on 1",
@@ -22,11 +15,10 @@ public final class LanguageTest {
         "duel 1", "odds 3", "mid 2", "lots 2", "asked 0", "upper 0", "lower 0", "count 1", "finding 0",
         "findings 1", "digest 0");
 
-    public static void main(String[] args) throws IOException {
-        Check check = new Check("LanguageTest");
+    public static void main(String[] args) {
+        Check check = new Check("FaceTest");
         constantsAreAsTold(check);
         faceIsAsTold(check);
-        sourceKeepsToTheRules(check, Files.readString(SOURCE));
         check.end();
     }
 
@@ -76,21 +68,5 @@ public final class LanguageTest {
 
     private static boolean isPrivate(Member member) {
         return Modifier.isPrivate(member.getModifiers());
-    }
-
-    private static void sourceKeepsToTheRules(Check check, String source) {
-        String code = Pattern.compile("/\\*.*?\\*/|//[^\\n]*", Pattern.DOTALL).matcher(source).replaceAll("");
-        String[] forbidden = {"\\bthrow\\b", "\\btry\\b", "\\bcatch\\b", "\\bsynchronized\\b",
-            "\\bassert\\b", "->", "::", "Exact\\b", "\\bpackage\\b", "\\.hashCode\\b",
-            "\\.toString\\b", "\\bSystem\\.(?!arraycopy\\b)", "\\bArrays\\.(?!fill\\b|copyOf)",
-            "\\bwhile\\b", "import (?!java\\.util\\.Arrays;)"};
-        for (String word : forbidden) {
-            Matcher matcher = Pattern.compile(word).matcher(code);
-            check.due("'" + word + "' in the source", matcher.find() ? 1 : 0, 0);
-        }
-        boolean isPlain = source.chars().allMatch(sign -> sign >= 1 && sign <= 127);
-        check.due("signs 1 to 127 alone", isPlain ? 1 : 0, 1);
-        long wide = Arrays.stream(source.split("\n")).filter(line -> line.length() > 110).count();
-        check.due("lines that are too long", wide, 0);
     }
 }
